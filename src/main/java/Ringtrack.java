@@ -8,6 +8,7 @@ public final class Ringtrack {
     private static final int LEAST_WORDS = 4;
     private static final int MOST_WORDS = 64;
     private static final int ALL_WORDS = 256;
+    private static final int MOST_TRACKS = 8;
     private static final int STEPS = 16;
     private static final int HEADS = 2;
     private static final int MOST_OFF = 40;
@@ -479,7 +480,12 @@ public final class Ringtrack {
             }
         }
         Disc checked = disc;
-        return checked == null || checked.isInOrder();
+        if (checked == null) {
+            return true;
+        }
+        Heads plain = new Heads(checked.heads.code, 0);
+        return isWithin(checked.reading.told, 0, checked.turn - 1)
+                && checked.gears.areInOrder(checked.rounds) && plain.tellMiddles();
     }
 
     // ---- what several calls need
@@ -496,9 +502,13 @@ public final class Ringtrack {
         return isWithin(bit, 0, FRAME_BITS - 1);
     }
 
-    /** From 0 on. */
+    /** From 0 on, also for a number below 0. */
     private static int modulo(int number, int by) {
-        return by <= 0 ? 0 : Math.floorMod(number, by);
+        if (by <= 0) {
+            return 0;
+        }
+        int rest = number % by;
+        return rest < 0 ? rest + by : rest;
     }
 
     /** The way from an angle to another one, a half turn back at the most. */
@@ -586,21 +596,25 @@ public final class Ringtrack {
         Code(int[] ring) {
             words = ring;
             Arrays.fill(places, NONE);
-            int marks = 0;
+            int highest = NONE;
             for (int k = 0; k < ring.length; k++) {
                 int word = ring[k] & (ALL_WORDS - 1);
                 places[word] = k;
-                marks |= word;
+                for (int track = 0; track < MOST_TRACKS; track++) {
+                    if (((word >> track) & 1) == 1 && track > highest) {
+                        highest = track;
+                    }
+                }
             }
-            tracks = Integer.SIZE - Integer.numberOfLeadingZeros(marks);
+            tracks = highest + 1;
         }
 
         boolean hasPlace(int place) {
-            return isWithin(place, 0, words.length - 1);
+            return place >= 0 && place < words.length;
         }
 
         boolean hasTrack(int track) {
-            return isWithin(track, 0, tracks - 1);
+            return track >= 0 && track < tracks;
         }
 
         int wordAt(int place) {
@@ -608,7 +622,7 @@ public final class Ringtrack {
         }
 
         int placeOf(int word) {
-            return isWithin(word, 0, places.length - 1) ? places[word] : NONE;
+            return word >= 0 && word < places.length ? places[word] : NONE;
         }
 
         private int mark(int place, int track) {
@@ -724,7 +738,8 @@ public final class Ringtrack {
                 return 0;
             }
             int inHalf = angle < half ? angle : angle - half;
-            int error = off * Math.min(inHalf, half - inHalf) / quarter;
+            int steps = inHalf < quarter ? inHalf : half - inHalf;
+            int error = off * steps / quarter;
             return angle < half ? error : -error;
         }
 
@@ -1027,7 +1042,7 @@ public final class Ringtrack {
         void advance(int steps) {
             int sum = angle + steps;
             angle = modulo(sum, turn);
-            int over = turn <= 0 ? 0 : Math.floorDiv(sum, turn);
+            int over = turn <= 0 ? 0 : (sum - angle) / turn;
             rounds += over;
             if (over > 0) {
                 heads.creep(over);
@@ -1067,11 +1082,6 @@ public final class Ringtrack {
                 sum += page[k];
             }
             return sum;
-        }
-
-        boolean isInOrder() {
-            Heads plain = new Heads(heads.code, 0);
-            return isWithin(reading.told, 0, turn - 1) && gears.areInOrder(rounds) && plain.tellMiddles();
         }
     }
 }
