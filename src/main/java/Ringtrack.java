@@ -901,7 +901,6 @@ public final class Ringtrack {
             int gear = count;
             if (gear < MOST_GEARS) {
                 teeth[gear] = number;
-                slips[gear] = 0;
                 count++;
             }
             return gear;

@@ -13,6 +13,7 @@ public final class DiscTest {
         addSpeck();
         addSpeckRefuses();
         specksCreep();
+        eachSpeckCreepsByItsOwn();
         clean();
         stick();
         stickRefuses();
@@ -181,6 +182,10 @@ public final class DiscTest {
             check.bad("addSpeck(0, 0, -1)", () -> x.addSpeck(0, 0, -1));
         }
         check.full("addSpeck(3, 1, 9) at 6", () -> x.addSpeck(3, 1, 9));
+        x.turn(64);
+        seenRow(x, "with 6 specks, a turn on", 0, 1, 3, 2);
+        x.turn(16);
+        check.same("seen(0) at a place of specks that creep by 0", x.seen(0), 1);
         check.same("clean()", x.clean(), 6);
     }
 
@@ -208,6 +213,19 @@ public final class DiscTest {
         x.power(false);
         x.turn(192);
         seenRow(x, "when it crept without power", 0, 0, 1, 2);
+    }
+
+    private static void eachSpeckCreepsByItsOwn() {
+        Ringtrack x = Rings.disc(2, 0);
+        x.addSpeck(0, 1, 3);
+        x.addSpeck(0, 0, 1);
+        x.addSpeck(0, 0, 4);
+        x.addSpeck(1, 1, 0);
+        x.addSpeck(1, 1, 8);
+        x.addSpeck(0, 1, 2);
+        seenRow(x, "with 6 specks that hide nothing", 0, 1, 3, 2);
+        x.turn(64);
+        seenRow(x, "with 6 specks that crept", 0, 0, 1, 0);
     }
 
     private static void clean() {

@@ -226,6 +226,7 @@ public final class ReadingsTest {
         x.turn(-16);
         check.same("toldRounds()", x.toldRounds(), -1);
         halfTurns();
+        toldAsZero();
         Ringtrack y = Rings.disc(2, 0);
         y.turn(-8);
         check.same("toldRounds() below 0", y.toldRounds(), -1);
@@ -244,6 +245,20 @@ public final class ReadingsTest {
         is("a half turn back", x, 't', 24, -1, 16);
         check.same("wayAt(1)", x.wayAt(1), -32);
         check.same("wayAt(2)", x.wayAt(2), -32);
+    }
+
+    /** What is told as 0 is over the end that it came to forth, and not over that it came to back. */
+    private static void toldAsZero() {
+        Ringtrack x = Rings.disc(2, 40);
+        x.setLimit(400);
+        x.turn(32);
+        is("at the half", x, 't', 40, -1, 16);
+        x.turn(30);
+        is("at the end, forth", x, 't', 0, 0, 16);
+        x.turn(-10);
+        is("before the end", x, 't', 24, 0, 16);
+        x.turn(10);
+        is("at the end, back", x, 't', 0, 0, 16);
     }
 
     private static void start() {
