@@ -6,6 +6,7 @@ final class Check {
     }
 
     private final String name;
+    private String sentence = "";
     private int asked;
     private int wrong;
 
@@ -13,13 +14,34 @@ final class Check {
         this.name = name;
     }
 
+    /** What is asked from here on tests this sentence of the document; QuotesTest looks for it there. */
+    void says(String quoted) {
+        sentence = " [" + quoted + "]";
+    }
+
+    /** The same for a line of a promise. */
+    void says(int promise, String quoted) {
+        sentence = " [promise " + promise + ": " + quoted + "]";
+    }
+
     /** Compares an answer; numbers are given as the kind of number that the call returns. */
     void same(String call, Object got, Object due) {
         asked++;
         if (!due.equals(got)) {
             wrong++;
-            System.out.println(name + ": " + call + " answered " + got + ", due is " + due);
+            System.out.println(name + ": " + call + " answered " + got + ", due is " + due + sentence);
         }
+    }
+
+    /** The call must answer, whatever; it must not throw. */
+    void taken(String call, Call made) {
+        Object got;
+        try {
+            got = made.answer() == null ? "null" : "an answer";
+        } catch (RuntimeException e) {
+            got = e.getClass();
+        }
+        same(call, got, "an answer");
     }
 
     /** The call must throw just this class, not one below it: those are the machine's own. */
