@@ -130,7 +130,10 @@ public final class EdgesOfBenchTest {
         check.same("escapes() of " + which, x.escapes(), due);
     }
 
-    /** In most of these just one fault escapes, that of the head, the track, and as what it sticks. */
+    /**
+     * In most of these just one fault escapes, that of the head, the track, and as what it sticks. In the last one what
+     * is told escapes without faults, too: off by 40, at 16 the heads tell 56 and 40, so 48 is told, trusted.
+     */
     private static void eachSingleFault() {
         check.says("A single fault is that of a head a track sticks as 0, or as 1.");
         escape(1, "0, 0, as 0", Rings.disc(2, 20), 8, 16);
@@ -145,6 +148,7 @@ public final class EdgesOfBenchTest {
         escape(1, "0, 3, as 0", Rings.typedDisc(20, 0, 1, 3, 7, 15, 14, 12, 8), 48, 64);
         escape(1, "1, 3, as 0", Rings.typedDisc(20, 0, 1, 3, 7, 15, 14, 12, 8), 8, 16);
         escape(0, "none", SQUARE.get(), 40, 48);
+        escape(8, "each of 8 where none is needed", Rings.disc(2, 40), 40, 48);
     }
 
     private static final String TRIED = "It is tried on the disc without specks and other sticking, told and turned from"

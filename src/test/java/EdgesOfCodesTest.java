@@ -203,6 +203,14 @@ public final class EdgesOfCodesTest {
         check.same("isOneTrack of " + which, Rings.ofTyped(words).isOneTrack(0), isOne);
     }
 
+    private static int[] moved(int from, int[] words) {
+        int[] moved = new int[words.length];
+        for (int k = 0; k < words.length; k++) {
+            moved[k] = words[(k + from) % words.length];
+        }
+        return moved;
+    }
+
     private static void ofOneTrack() {
         check.says("It is of one track if each track is the track 0 from some place on.");
         oneTrack(true, "two tracks", 0, 1, 3, 2);
@@ -210,9 +218,14 @@ public final class EdgesOfCodesTest {
         oneTrack(true, "three tracks from the second word on", 1, 3, 7, 6, 4, 0);
         oneTrack(true, "four tracks", 0, 1, 3, 7, 15, 14, 12, 8);
         oneTrack(true, "a track that is moved by the most places", 0, 2, 3, 1);
-        oneTrack(false, "marks for 3, 2, 2 words", 0, 1, 3, 2, 6, 4);
         oneTrack(false, "marks for 2, 2, 3 words", 0, 1, 5, 4, 6, 2);
-        oneTrack(false, "marks for 2, 3, 2 words", 0, 1, 3, 2, 6, 4);
+        for (int from = 0; from < 6; from++) {
+            oneTrack(false, "marks for 2, 3, 2 words, from " + from, moved(from, Rings.UNLIKE));
+            oneTrack(true, "marks for 3, 3, 3 words, from " + from, moved(from, Rings.SIX));
+        }
+        oneTrack(true, "marks for 3 words of 8, each", 2, 3, 1, 5, 4, 12, 8, 10);
+        oneTrack(false, "marks for 3, 5, 3, 3 words of 8", 0, 1, 3, 7, 6, 14, 10, 8);
+        oneTrack(false, "marks for 5, 3, 3, 3 words of 8", 3, 2, 0, 4, 5, 13, 9, 11);
         oneTrack(false, "as many marks, otherwise apart", 0, 1, 3, 2, 6, 7, 5, 4);
         oneTrack(false, "four tracks that change 4 times each",
                 0, 1, 3, 2, 6, 7, 15, 11, 9, 13, 5, 4, 12, 14, 10, 8);
@@ -304,7 +317,12 @@ public final class EdgesOfCodesTest {
         check.unsupported("ring() once more", () -> x.ring());
         Rings.typeAll(x, Rings.SQUARE);
         check.same("ring() of others", x.ring(), 1);
-        check.same("word(0, 5): the first code stays", x.word(0, 5), 4);
+        for (int k = 0; k < 6; k++) {
+            check.same("word(0, " + k + "): the first code stays", x.word(0, k), Rings.SIX[k]);
+        }
+        Rings.typeAll(x, 9, 9, 9, 9);
+        check.same("word(1, 3): what is typed later is no code", x.word(1, 3), 2);
+        x.wipe();
         check.says(4, "Throws `UnsupportedOperationException` if it is no ring");
         check.unsupported("ring() of none", () -> new Ringtrack().ring());
         check.unsupported("ring() of 64 that are none", () -> typed(64).ring());

@@ -18,6 +18,7 @@ public final class EdgesOfFramesTest {
         orderOfArriving();
         bitsOfThoseUnderWay();
         takenFirstFirst();
+        manyThatArrived();
         checksThatHold();
         send();
         flip();
@@ -198,6 +199,22 @@ public final class EdgesOfFramesTest {
         check.same("take() of the third one", x.take(), 40);
         check.missing("take() of no more", () -> x.take());
         check.missing("take() of no more again", () -> x.take());
+    }
+
+    /** In 450 calls 9 frames arrive again and again, of another place each time. */
+    private static void manyThatArrived() {
+        check.says(TAKEN);
+        Ringtrack x = Rings.disc(6, 0);
+        for (int k = 0; k < 40; k++) {
+            x.turn(k == 0 ? 0 : 16);
+            for (int sent = 0; sent < 9; sent++) {
+                x.send(1);
+            }
+            check.same("tick(1)", x.tick(1), 9);
+        }
+        for (int k = 0; k < 63; k++) {
+            check.same("take() as number " + k + " of 360", x.take(), 16 * (k / 9) + 8);
+        }
     }
 
     /** Turns bits of a frame that is 0, and takes it. */

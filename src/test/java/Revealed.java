@@ -2,7 +2,7 @@ import java.util.ArrayList;
 import java.util.List;
 
 /**
- * Asks an object for all that it keeps, in some 350 calls: what can be asked, and then what shows only when the disc is
+ * Asks an object for all that it keeps, in some 190 calls: what can be asked, and then what shows only when the disc is
  * turned, cleaned and no longer sticks, and frames arrive. The object is used up by that.
  */
 final class Revealed {
