@@ -75,7 +75,9 @@ public final class FaceTest {
         otherMembers();
         classesInside();
         namesOfClassesInside();
-        source(Files.readString(Path.of(args[0])));
+        String text = Files.readString(Path.of(args[0]));
+        source(text);
+        sizes(text.split("\n"));
         check.end();
     }
 
@@ -141,6 +143,7 @@ public final class FaceTest {
         all.add(Ringtrack.class);
         for (Class<?> one : all) {
             for (Method method : one.getDeclaredMethods()) {
+                check.same(method.getName() + " takes at most 7", method.getParameterCount() <= 7, true);
                 boolean isFace = one == Ringtrack.class && Modifier.isPublic(method.getModifiers());
                 check.same(method.getName() + " bears a name of its own",
                         isFace || !names.contains(method.getName()), true);
@@ -155,6 +158,8 @@ public final class FaceTest {
         for (String sign : never) {
             check.same("the source has " + sign, text.contains(sign), false);
         }
+        check.same("the source has signs beyond 127", text.chars().anyMatch(sign -> sign > 127), false);
+        check.same("the source joins texts by +", Pattern.compile("\"\\s*\\+|\\+\\s*\"").matcher(text).find(), false);
         Set<String> imports = new TreeSet<>();
         Matcher matcher = Pattern.compile("(?m)^import (.*);$").matcher(text);
         while (matcher.find()) {
@@ -162,5 +167,19 @@ public final class FaceTest {
         }
         check.same("the imports", imports,
                 new TreeSet<>(List.of("java.util.Arrays", "java.util.NoSuchElementException")));
+    }
+
+    /** A method goes from a line that ends with a brace to the next one that closes it as far to the left. */
+    private static void sizes(String[] lines) {
+        for (int k = 0; k < lines.length; k++) {
+            String ahead = lines[k].substring(0, lines[k].length() - lines[k].stripLeading().length());
+            boolean isHead = lines[k].endsWith("{") && (ahead.length() == 4 || ahead.length() == 8)
+                    && !lines[k].contains(" class ");
+            int end = k;
+            while (isHead && end < lines.length && !lines[end].equals(ahead + "}")) {
+                end++;
+            }
+            check.same("at most 60 lines: " + lines[k].trim(), end - k < 60, true);
+        }
     }
 }

@@ -85,9 +85,9 @@ public final class FuzzTest {
         }
     }
 
-    /** The bits of a known ring are put elsewhere, and some turned. */
+    /** The bits of a known ring or of a drawn one are put elsewhere, and some turned. */
     private void typeRing() {
-        int[] ring = RINGS[random.nextInt(RINGS.length)];
+        int[] ring = random.nextBoolean() ? Rings.drawn(random) : RINGS[random.nextInt(RINGS.length)];
         List<Integer> bits = new ArrayList<>(List.of(0, 1, 2, 3, 4, 5, 6, 7));
         if (random.nextBoolean()) {
             java.util.Collections.shuffle(bits, random);

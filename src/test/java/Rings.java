@@ -1,3 +1,6 @@
+import java.util.Arrays;
+import java.util.Random;
+
 /** Rings of words for the tests, and objects that have them. */
 final class Rings {
 
@@ -8,6 +11,33 @@ final class Rings {
     static final int[] UNLIKE = {0, 1, 3, 2, 6, 4};
 
     private Rings() {
+    }
+
+    /** A walk along the edges of a cube of 2 to 8 bits, cut where its last word is beside its first one. */
+    static int[] drawn(Random random) {
+        int[] walk = new int[64];
+        int bits = 2 + random.nextInt(7);
+        walk[0] = random.nextInt(256);
+        int length = 1;
+        int cut = 0;
+        for (int tried = 0; tried < 400 && length < walk.length; tried++) {
+            int next = walk[length - 1] ^ 1 << random.nextInt(bits);
+            if (!isAmong(walk, length, next)) {
+                walk[length] = next;
+                length++;
+                cut = length >= 4 && Integer.bitCount(next ^ walk[0]) == 1 ? length : cut;
+            }
+        }
+        return cut == 0 ? SQUARE : Arrays.copyOf(walk, cut);
+    }
+
+    private static boolean isAmong(int[] words, int count, int word) {
+        for (int k = 0; k < count; k++) {
+            if (words[k] == word) {
+                return true;
+            }
+        }
+        return false;
     }
 
     static void typeAll(Ringtrack x, int... words) {
